@@ -16,6 +16,7 @@ public final class DoneTest {
         windRefused();
         fills();
         marks();
+        marksOfAnotherWall();
         likenesses();
         drifts();
         driftRefused();
@@ -153,6 +154,10 @@ public final class DoneTest {
         row.day(1, 3);
         CHECK.due("look() at a row", row.look(), 1);
         CHECK.cells("look() at a row", row, 0, 0, 0, 1, 3, 1);
+        DampLikeness corner = Check.made("w2 2;l0;");
+        corner.day(1, 4);
+        CHECK.due("look() at a corner", corner.look(), 0);
+        CHECK.cells("look() at a corner", corner, 1, 0, 1, 0);
         DampLikeness square = Check.made("w2 2;l0;l1;l2;l3;");
         square.day(1, 5);
         CHECK.due("look() at a square", square.look(), 4);
@@ -269,6 +274,8 @@ public final class DoneTest {
         shape(Check.set(2, 3, 7, 8, 9, 10), 2, Check.set(2, 3, 7), 16, 2);
         shape(Check.set(3, 4), 2, Check.set(3), 8, 0);
         shape(Check.set(0, 4, 5, 9, 10, 11, 7, 3, 2), 1, Check.set(0, 4, 5, 9, 10, 11, 7, 3, 2), 20, 0);
+        shape(Check.set(0, 1, 4, 8, 9, 10), 1, Check.set(0, 1, 4, 8, 9, 10), 14, 2);
+        shape(Check.set(0, 4, 5), 1, Check.set(0, 4, 5), 8, 1);
         shape(Check.set(0, 5, 10), 3, Check.set(0), 12, 0);
         shape(Check.set(0, 2, 3, 8, 9, 10, 11), 3, Check.set(8, 9, 10, 11), 20, 2);
         DampLikeness d = Check.made("w2 2;l0;l3;");
@@ -277,6 +284,18 @@ public final class DoneTest {
         d.day(1, 1);
         CHECK.due("3 is a mark", d.told(8), 8);
         CHECK.due("all wet", d.told(12), 6);
+    }
+
+    /** Another wall has other columns: what lies beside what must not stay as it was. */
+    private static void marksOfAnotherWall() {
+        DampLikeness d = Check.made("w5 2;");
+        Check.feed(d, "w2 3;l3;l4;l5;");
+        d.wall();
+        d.day(1, 5);
+        CHECK.due("groups", d.told(15), 1);
+        CHECK.due("border", d.told(17), 8);
+        CHECK.due("look()", d.look(), 3);
+        CHECK.cells("look()", d, 0, 0, 0, 3, 5, 3);
     }
 
     private static void likenesses() {
@@ -318,7 +337,7 @@ public final class DoneTest {
     }
 
     private static void drifts() {
-        String[] texts = {"w3 4;l1;l6;c0 1;c5 6;n1;", "w2 2;c0 1;n2;", "w5 5;l0;l12;l13;l24;c12 17;n2;"};
+        String[] texts = {"w3 4;l1;l6;c0 1;c5 6;n1;", "w2 2;c0 1;n2;", "w2 3;l4;", "w5 5;l0;l12;l13;l24;c12 17;n2;"};
         for (String text : texts) {
             for (long first = 0; first < 2147483648L; first += 268435455L) {
                 int start = (int) first;
@@ -441,6 +460,8 @@ public final class DoneTest {
         }
         CHECK.due("days", d.told(6), 9000);
         CHECK.due("9000 are not above 9000: drift(1)", d.drift(1), 1);
+        CHECK.due("9001 are: day(1, 1)", d.day(1, 1), Check.FULL);
+        CHECK.due("9001 are: drift(1)", d.drift(1), Check.FULL);
         CHECK.due("undo()", d.undo(), 15);
         CHECK.due("9000 are not above 9000: day(60, 1)", d.day(60, 1), 1);
         CHECK.due("days", d.told(6), 9060);

@@ -197,6 +197,7 @@ public final class TextTest {
         d.wind(2);
         d.lead(0, 3);
         d.write(1, 1);
+        d.keep(0);
         d.keep(1);
         d.day(1, 1);
         Check.feed(d, "w2 3;l4;l5;c3 4;n1;");
@@ -208,6 +209,7 @@ public final class TextTest {
         CHECK.cells("second wall", d, 0, 0, 0, 0, 0, 0, Check.UNKNOWN);
         CHECK.due("second wall: leak(1)", d.leak(1), 5);
         CHECK.due("second wall: leak(2)", d.leak(2), Check.UNKNOWN);
+        CHECK.due("second wall: goBack(0)", d.goBack(0), Check.NOT);
         CHECK.due("second wall: goBack(1)", d.goBack(1), Check.NOT);
         CHECK.due("second wall: undo()", d.undo(), Check.NOT);
         CHECK.due("second wall: judge()", d.judge(), Check.NONE);

@@ -70,6 +70,7 @@ public final class TriedTest {
         CHECK.due("first(26, 0)", d.first(26, 0), Check.OUTSIDE);
         CHECK.due("first(0, -1)", d.first(0, -1), Check.OUTSIDE);
         CHECK.due("first(0, 10)", d.first(0, 10), Check.OUTSIDE);
+        CHECK.due("the last day that counts", Check.made("w5 2;l0;c4 6;c7 9;c5 7;c2 4;c2 3;c4 5;").first(8, 2), 60);
         d.day(3, 9);
         CHECK.due("first(3, 0) now", d.first(3, 0), 0);
     }
@@ -136,6 +137,7 @@ public final class TriedTest {
         CHECK.due("often(3, 1, 1, 1)", d.often(3, 1, 1, 1), 3);
         CHECK.due("often(8, 1, 0, 0)", d.often(8, 1, 0, 0), 8);
         CHECK.due("often(8, 1, 0, 1)", d.often(8, 1, 0, 1), 255);
+        CHECK.due("often(2, 0, 0, 0)", d.often(2, 0, 0, 0), 2);
         CHECK.due("often(8, 9, 2, 0)", d.often(8, 9, 2, 0), Check.NONE);
         CHECK.due("often(8, 9, 25, 1)", d.often(8, 9, 25, 1), Check.NONE);
         for (int n = 1; n <= 8; n++) {
@@ -143,6 +145,12 @@ public final class TriedTest {
                 oftenByHand(n, 9 - n, m);
             }
         }
+        // two looks at most, behind the days 1 and 2 or 0 and 3: 6 is less than 9
+        DampLikeness alike = Check.made("w3 3;l5;l2;n1;");
+        alike.seed(34);
+        alike.drift(5);
+        CHECK.due("often(4, 5, 3, 0)", alike.often(4, 5, 3, 0), 2);
+        CHECK.due("often(4, 5, 3, 1)", alike.often(4, 5, 3, 1), 6);
     }
 
     private static void oftenByHand(int n, int r, int m) {
@@ -209,6 +217,11 @@ public final class TriedTest {
         // rain 3 shows the last cell alone (three are left), rain 4 the first one too (two)
         CHECK.due("rainToTell(0)", d.rainToTell(0), 4);
         CHECK.due("rainToTell(1)", d.rainToTell(1), 2);
+        // of 9 in the middle 6 run away, 3 are left: the least that shows
+        DampLikeness nine = Check.made("w3 3;l4;n2;c4 1;c4 3;c4 5;c4 7;f0,0,0;");
+        CHECK.due("nine: rainToTell(0)", nine.rainToTell(0), 9);
+        CHECK.due("nine: rainToTell(1)", nine.rainToTell(1), 0);
+        CHECK.due("nine: wasRain(16)", nine.wasRain(16), 512);
         DampLikeness nobody = Check.made("w2 2;l0;");
         CHECK.due("nobody: rainToTell(0)", nobody.rainToTell(0), 0);
         CHECK.due("nobody: rainToTell(1)", nobody.rainToTell(1), 0);
