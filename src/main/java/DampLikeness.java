@@ -247,7 +247,7 @@ public final class DampLikeness {
     }
 
     public int wasRain(int set) {
-        if ((set & ~plan.allCells()) != 0) {
+        if ((set & ~plan.allCells) != 0) {
             return UNKNOWN;
         }
         return noWall() ? NOT : trial.rainsThatShow(plan, now, set);
@@ -385,7 +385,7 @@ public final class DampLikeness {
         final int[] crackA = new int[MOST_CRACKS];
         final int[] crackB = new int[MOST_CRACKS];
         final int[] faces = new int[MOST_FACES];
-        int rows, columns, firstColumn, wind;
+        int rows, columns, allCells, firstColumn, wind;
         int leakCount, crackCount, faceCount;
 
         void clear() {
@@ -400,13 +400,10 @@ public final class DampLikeness {
             return rows * columns;
         }
 
-        int allCells() {
-            return (1 << cells()) - 1;
-        }
-
         void resize(int h, int w) {
             rows = h;
             columns = w;
+            allCells = (1 << (h * w)) - 1;
             firstColumn = 0;
             for (int row = 0; row < h; row++) {
                 firstColumn |= 1 << (row * w);
@@ -779,9 +776,9 @@ public final class DampLikeness {
         /** The cells whose neighbour on a side is in the set. */
         private static int besideSet(Plan plan, int set, int side) {
             switch (side) {
-                case 0: return (set << plan.columns) & plan.allCells();
+                case 0: return (set << plan.columns) & plan.allCells;
                 case 1: return set >> plan.columns;
-                case 2: return (set << 1) & plan.allCells() & ~plan.firstColumn;
+                case 2: return (set << 1) & plan.allCells & ~plan.firstColumn;
                 default: return (set & ~plan.firstColumn) >> 1;
             }
         }

@@ -1,7 +1,6 @@
 /** Promises 5 to 17: what is wet, what shows, and what is done to it. */
 public final class DoneTest {
     private static final Check CHECK = new Check("DoneTest");
-    private static final String PAINTED = "w3 4;l0;l1;l2;l3;";
 
     public static void main(String[] args) {
         rainAndRunning();
@@ -27,34 +26,11 @@ public final class DoneTest {
     }
 
     private static void afterDay(String text, int n, int r, int... wets) {
-        DampLikeness d = Check.made(text);
-        int shows = 0;
-        for (int wet : wets) {
-            shows += wet >= 3 ? 1 : 0;
-        }
-        String call = text + " day(" + n + ", " + r + ")";
-        CHECK.due(call, d.day(n, r), shows);
-        CHECK.cells(call, d, wets);
-        CHECK.due(call + ": days", d.told(6), n);
+        CHECK.afterDay(text, n, r, wets);
     }
 
-    /** A wall of 3 rows and 4 columns on which just a set shows: each cell of it wet by 8 or 9. */
     private static DampLikeness painted(String more, int set) {
-        DampLikeness d = Check.made(PAINTED + more);
-        for (int row = 2; row >= 0; row--) {
-            for (int l = 0; l < 4; l++) {
-                d.lead(l, row * 4 + l);
-            }
-            d.day(1, 9);
-        }
-        CHECK.due("all shows", d.told(8), 4095);
-        for (int x = 0; x < 12; x++) {
-            if ((set >> x & 1) == 0) {
-                d.brush(x);
-            }
-        }
-        CHECK.due("painted", d.told(8), set);
-        return d;
+        return Check.painted(3, 4, more, set);
     }
 
     private static void rainAndRunning() {
@@ -326,16 +302,6 @@ public final class DoneTest {
         CHECK.due("whom: one that is nothing like", painted("f0,0,0;", 4095).told(13), 0);
     }
 
-    /** The document's draws, told once more with long numbers. */
-    private static final class Lots {
-        private long seed;
-
-        int draw(int n) {
-            seed = (seed * 1103515245L + 12345L) % 2147483648L;
-            return (int) (seed / 65536 % n);
-        }
-    }
-
     private static void drifts() {
         String[] texts = {"w3 4;l1;l6;c0 1;c5 6;n1;", "w2 2;c0 1;n2;", "w2 3;l4;", "w5 5;l0;l12;l13;l24;c12 17;n2;"};
         for (String text : texts) {
@@ -343,8 +309,7 @@ public final class DoneTest {
                 int start = (int) first;
                 DampLikeness d = Check.made(text);
                 DampLikeness byHand = Check.made(text);
-                Lots lots = new Lots();
-                lots.seed = start;
+                Lots lots = new Lots(start);
                 d.seed(start);
                 for (int n = 1; n <= 60; n += 9) {
                     int shows = d.drift(n);

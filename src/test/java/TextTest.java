@@ -16,14 +16,8 @@ public final class TextTest {
         CHECK.finish();
     }
 
-    /** The answers of wall() and fault() to one text on a new object. */
     private static void text(String text, int wall, int fault) {
-        DampLikeness d = Check.fed(text);
-        CHECK.due("[" + text + "] letters", d.told(5), text.length());
-        CHECK.due("[" + text + "] wall()", d.wall(), wall);
-        CHECK.due("[" + text + "] fault()", d.fault(), fault);
-        CHECK.due("[" + text + "] letters behind wall()", d.told(5), 0);
-        CHECK.due("[" + text + "] rows times columns", d.told(0) * d.told(1), Math.max(0, wall));
+        CHECK.text(text, wall, fault);
     }
 
     private static void newObject() {
