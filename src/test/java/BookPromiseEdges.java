@@ -22,7 +22,8 @@ final class BookPromiseEdges extends Edges {
                 Break.in("int add(int x, int wet)", "count++; return count;", "return count++;"));
         edge("UNKNOWN, OUTSIDE, FULL (15).", "UNKNOWN: one less, one more; no WALL; ahead of OUTSIDE and FULL", c -> {
             DampLikeness d = made("w2 2;");
-            c.dueEach("the CELL", UNKNOWN, d.write(-1, 0), d.write(4, 0), d.write(LEAST, 0), d.write(MOST, 0), d.write(4, 10));
+            c.dueEach("the CELL", UNKNOWN, d.write(-1, 0), d.write(4, 0), d.write(LEAST, 0), d.write(MOST, 0),
+                    d.write(4, 10));
             c.due("no WALL", noWall().write(0, 0), UNKNOWN);
             c.due("entries", d.told(19), 0);
             for (int k = 0; k < 15; k++) {
@@ -83,7 +84,8 @@ final class BookPromiseEdges extends Edges {
             c.due("the first", d.judge(), 0);
             d.tear();
             c.due("empty again", d.judge(), NONE);
-        }, Break.in("int firstWrong(", "k < count", "k < count - 1"), Break.in("int firstWrong(", "return NONE;", "return count;"),
+        }, Break.in("int firstWrong(", "k < count", "k < count - 1"),
+                Break.in("int firstWrong(", "return NONE;", "return count;"),
                 Break.in("int firstWrong(", "k < count", "k < MOST_ENTRIES"));
     }
 
@@ -95,14 +97,16 @@ final class BookPromiseEdges extends Edges {
             c.due("seed(0)", d.seed(0), 2147483647);
             c.due("seed(1)", d.seed(1), 0);
             c.due("seed(0)", d.seed(0), 1);
-        }, Break.in("int seed(", "if (v < 0)", "if (v <= 0)"), Break.in("int seed(", "if (v < 0)", "if (v < 0 || v == 2147483647)"),
+        }, Break.in("int seed(", "if (v < 0)", "if (v <= 0)"),
+                Break.in("int seed(", "if (v < 0)", "if (v < 0 || v == 2147483647)"),
                 Break.in("int seed(", "return was;", "return v;"), Break.in("int seed(", "draws.state = v;", ""));
         edge("OUTSIDE.", "-1 and the least; THE SEED stays", c -> {
             DampLikeness d = noWall();
             d.seed(7);
             c.dueEach("v", OUTSIDE, d.seed(-1), d.seed(LEAST));
             c.due("THE SEED", d.seed(0), 7);
-        }, Break.in("int seed(", "if (v < 0)", "if (v < -1)"), Break.in("int seed(", "if (v < 0)", "if (v < 0 && v != -2147483648)"));
+        }, Break.in("int seed(", "if (v < 0)", "if (v < -1)"),
+                Break.in("int seed(", "if (v < 0)", "if (v < 0 && v != -2147483648)"));
     }
 
     private void keep() {
@@ -121,7 +125,8 @@ final class BookPromiseEdges extends Edges {
             none.seed(45);
             c.due("no WALL: goBack(0)", none.goBack(0), 1);
             c.due("no WALL: THE SEED", none.seed(0), 44);
-        }, Break.atStart("int keep(", "if (i == 1 && images[1].kept) { return 1; } "), Break.atStart("int keep(", "if (noWall()) { return NOT; } "));
+        }, Break.atStart("int keep(", "if (i == 1 && images[1].kept) { return 1; } "),
+                Break.atStart("int keep(", "if (noWall()) { return NOT; } "));
         edge("(nothing can be undone then): 1.", "behind 16 that could; the IMAGE itself stays so", c -> {
             DampLikeness d = made("w2 2;l3;");
             for (int k = 0; k < 16; k++) {

@@ -30,11 +30,13 @@ final class DampEdges extends Edges {
         edge("A DAY of RAIN n (0 .. 9)", "RAIN 0 and RAIN 9", c -> {
             c.afterDay("w2 2;l3;", 1, 0, 0, 0, 0, 0);
             c.afterDay("w2 2;l3;", 1, 9, 0, 0, 0, 9);
-        }, Break.of("MOST_RAIN = 9", "MOST_RAIN = 8"), Break.in("int day(", "outside(r, 0, MOST_RAIN)", "outside(r, 1, MOST_RAIN)"));
+        }, Break.of("MOST_RAIN = 9", "MOST_RAIN = 8"),
+                Break.in("int day(", "outside(r, 0, MOST_RAIN)", "outside(r, 1, MOST_RAIN)"));
         edge("each LEAK makes its CELL", "each of four at one CELL, and of two at two", c -> {
             c.afterDay("w2 2;l3;l3;l3;l3;", 1, 2, 0, 0, 0, 8);
             c.afterDay("w2 2;l2;l3;", 1, 2, 0, 0, 2, 2);
-        }, Break.in("void rainDay(", "l < plan.leakCount", "l < 1"), Break.in("void rainDay(", "l < plan.leakCount", "l < 3"));
+        }, Break.in("void rainDay(", "l < plan.leakCount", "l < 1"),
+                Break.in("void rainDay(", "l < plan.leakCount", "l < 3"));
         edge("n more WET (9 at most).", "rain is cut ahead of the running", c -> {
             c.afterDay("w2 2;l0;l0;", 1, 5, 8, 0, 1, 0);
             c.afterDay("w2 2;l0;l0;l0;l0;", 1, 9, 8, 0, 1, 0);
@@ -159,8 +161,20 @@ final class DampEdges extends Edges {
             square.day(1, 9);
             square.look();
             c.cells("two", square, 8, 8, 9, 9);
+            DampLikeness ends = Check.painted(5, 5, "", Check.set(0, 24));
+            int first = ends.cell(0);
+            int last = ends.cell(24);
+            ends.look();
+            c.due("none, the first CELL", ends.cell(0), first - 2);
+            c.due("none, the last of 25", ends.cell(24), last - 2);
+            DampLikeness two = Check.painted(3, 4, "", Check.set(0, 1));
+            first = two.cell(0);
+            two.look();
+            c.due("one, the first CELL", two.cell(0), first - 2);
         }, Break.in("int lonely(", "marks & ~two", "marks & ~one"), Break.in("int lonely(", "marks & ~two", "marks"),
-                Break.in("int lonely(", "marks & ~two", "one & marks & ~two"));
+                Break.in("int lonely(", "marks & ~two", "one & marks & ~two"),
+                Break.in("void shrink(", "int x = 0", "int x = 1"),
+                Break.in("void shrink(", "x < wet.length", "x < wet.length - 1"));
         edge("beside, above, below them", "each of the four sides counts", c -> {
             for (int[] two : new int[][] {{5, 7}, {2, 10}, {2, 5}, {7, 10}, {5, 10}, {2, 7}}) {
                 DampLikeness d = Check.painted(3, 4, "", Check.set(6, two[0], two[1]));
@@ -170,9 +184,11 @@ final class DampEdges extends Edges {
             }
         }, Break.in("int besideSet(", "case 0: return (set << plan.columns) & plan.allCells;", "case 0: return 0;"),
                 Break.in("int besideSet(", "case 1: return set >> plan.columns;", "case 1: return 0;"),
-                Break.in("int besideSet(", "case 2: return (set << 1) & plan.allCells & ~plan.firstColumn;", "case 2: return 0;"),
+                Break.in("int besideSet(", "case 2: return (set << 1) & plan.allCells & ~plan.firstColumn;",
+                        "case 2: return 0;"),
                 Break.in("int besideSet(", "default: return (set & ~plan.firstColumn) >> 1;", "default: return 0;"));
-        edge("fewer than two that SHOW beside, above, below them", "one across, one behind the end of a ROW are not beside", c -> {
+        edge("fewer than two that SHOW beside, above, below them",
+                "one across, one behind the end of a ROW are not beside", c -> {
             DampLikeness across = Check.painted(3, 4, "", Check.set(0, 2, 5, 8, 10));
             int middle = across.cell(5);
             across.look();
@@ -230,7 +246,8 @@ final class DampEdges extends Edges {
                     c.cells(from + " to " + to, d, 0, 0, 0, to == 1 ? 1 : 0, to == 0 ? 4 : 3, to == 2 ? 1 : 0);
                 }
             }
-        }, Break.in("int wind(", "now.wind = n;", ""), Break.in("int wind(", "now.wind = n;", "now.wind = was == n ? 0 : n;"));
+        }, Break.in("int wind(", "now.wind = n;", ""),
+                Break.in("int wind(", "now.wind = n;", "now.wind = was == n ? 0 : n;"));
         edge("FILLED: a CRACK, or open again.", "filled twice, opened twice; no other CRACK", c -> {
             DampLikeness d = made("w2 2;c0 1;c1 3;c0 2;");
             d.fill(1, true);

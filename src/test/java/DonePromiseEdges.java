@@ -22,7 +22,8 @@ final class DonePromiseEdges extends Edges {
             c.due("day(60, 9)", d.day(60, 9), 1);
             c.due("DAYS", d.told(6), 61);
         }, Break.in("int day(", "outside(n, 1, MOST_DAYS)", "outside(n, 2, MOST_DAYS)"),
-                Break.in("int day(", "outside(n, 1, MOST_DAYS)", "outside(n, 1, MOST_DAYS - 1)"), Break.in("void rainDays(", "k < n", "k < n - 1"));
+                Break.in("int day(", "outside(n, 1, MOST_DAYS)", "outside(n, 1, MOST_DAYS - 1)"),
+                Break.in("void rainDays(", "k < n", "k < n - 1"));
         edge("of RAIN r (0 .. 9): how many CELLS SHOW.", "RAIN 0 and RAIN 9; none and all that can SHOW", c -> {
             DampLikeness d = made("w2 2;l0;l1;l2;l3;");
             c.due("day(1, 0)", d.day(1, 0), 0);
@@ -33,7 +34,8 @@ final class DonePromiseEdges extends Edges {
                 Break.in("int day(", "return now.markCount();", "return now.marks();"));
         edge("OUTSIDE, NOT: no WALL; FULL", "OUTSIDE: 0 and 61 DAYS, RAIN -1 and 10, far ones; without a WALL too", c -> {
             DampLikeness d = made("w2 2;l3;");
-            c.dueEach("DAYS", OUTSIDE, d.day(0, 5), d.day(61, 5), d.day(-1, 5), d.day(LEAST, 5), d.day(MOST, 5), noWall().day(0, 5));
+            c.dueEach("DAYS", OUTSIDE, d.day(0, 5), d.day(61, 5), d.day(-1, 5), d.day(LEAST, 5), d.day(MOST, 5),
+                    noWall().day(0, 5));
             c.dueEach("RAIN", OUTSIDE, d.day(1, -1), d.day(1, 10), d.day(1, LEAST), d.day(1, MOST), noWall().day(1, 10));
             c.due("no DAY", d.told(6), 0);
         }, Break.in("int day(", "outside(n, 1, MOST_DAYS)", "outside(n, 0, MOST_DAYS)"),
@@ -68,7 +70,8 @@ final class DonePromiseEdges extends Edges {
             d.day(1, 5);
             c.due("5 becomes 3", d.look(), 1);
             c.due("3 becomes 1", d.look(), 0);
-        }, Break.in("int look(", "now.shrink(plan); return now.markCount();", "int was = now.markCount(); now.shrink(plan); return was;"));
+        }, Break.in("int look(", "now.shrink(plan); return now.markCount();",
+                "int was = now.markCount(); now.shrink(plan); return was;"));
         edge("NOT: no WALL.", "on a new object; behind an empty text", c -> {
             c.due("new", noWall().look(), NOT);
             DampLikeness d = made("w2 2;");
@@ -102,7 +105,8 @@ final class DonePromiseEdges extends Edges {
             c.due("lead(3, 24) again", d.lead(3, 24), 24);
             c.due("lead(3, 0)", d.lead(3, 0), 24);
             c.due("leak(3)", d.leak(3), 0);
-        }, Break.in("int lead(", "return was;", "return x;"), Break.in("int lead(", "int was = pick(now.leakAt, l);", "int was = pick(plan.leakAt, l);"));
+        }, Break.in("int lead(", "return was;", "return x;"),
+                Break.in("int lead(", "int was = pick(now.leakAt, l);", "int was = pick(plan.leakAt, l);"));
         edge("UNKNOWN.", "LEAK and CELL, one less, one more; no LEAK; no WALL", c -> {
             DampLikeness d = made("w2 2;l0;");
             c.dueEach("the LEAK", UNKNOWN, d.lead(-1, 0), d.lead(1, 0), d.lead(LEAST, 0), d.lead(MOST, 0));
@@ -111,7 +115,8 @@ final class DonePromiseEdges extends Edges {
             c.due("no WALL", noWall().lead(0, 0), UNKNOWN);
             c.due("leak(0)", d.leak(0), 0);
         }, Break.in("int lead(", "!plan.hasLeak(l) ||", ""), Break.in("int lead(", "|| !plan.hasCell(x)", ""),
-                Break.in("boolean hasCell(", "x < cells()", "x <= cells()"), Break.in("boolean hasLeak(", "l < leakCount", "l <= leakCount"));
+                Break.in("boolean hasCell(", "x < cells()", "x <= cells()"),
+                Break.in("boolean hasLeak(", "l < leakCount", "l <= leakCount"));
     }
 
     private void wind() {
@@ -123,10 +128,12 @@ final class DonePromiseEdges extends Edges {
             c.due("wind(0)", d.wind(0), 2);
             c.due("wind(1)", d.wind(1), 0);
         }, Break.in("int wind(", "outside(n, 0, MOST_WIND)", "outside(n, 1, MOST_WIND)"),
-                Break.in("int wind(", "outside(n, 0, MOST_WIND)", "outside(n, 0, MOST_WIND - 1)"), Break.in("int wind(", "return was;", "return n;"));
+                Break.in("int wind(", "outside(n, 0, MOST_WIND)", "outside(n, 0, MOST_WIND - 1)"),
+                Break.in("int wind(", "return was;", "return n;"));
         edge("OUTSIDE, NOT: no WALL.", "OUTSIDE: -1 and 3, far ones; without a WALL too", c -> {
             DampLikeness d = made("w2 2;n1;");
-            c.dueEach("WIND", OUTSIDE, d.wind(-1), d.wind(3), d.wind(LEAST), d.wind(MOST), noWall().wind(3), noWall().wind(-1));
+            c.dueEach("WIND", OUTSIDE, d.wind(-1), d.wind(3), d.wind(LEAST), d.wind(MOST), noWall().wind(3),
+                    noWall().wind(-1));
             c.due("WIND stays", d.told(7), 1);
         }, Break.in("int wind(", "outside(n, 0, MOST_WIND)", "outside(n, -1, MOST_WIND)"),
                 Break.in("int wind(", "outside(n, 0, MOST_WIND)", "outside(n, 0, MOST_WIND + 1)"));
@@ -147,15 +154,18 @@ final class DonePromiseEdges extends Edges {
             c.due("filled, filled", d.fill(5, true), 1);
             c.due("filled, opened", d.fill(5, false), 1);
             c.due("filled ones", d.told(9), 0);
-        }, Break.in("int fill(", "return was;", "return 1 - was;"), Break.in("int fill(", "return was;", "return is ? 1 : 0;"),
+        }, Break.in("int fill(", "return was;", "return 1 - was;"),
+                Break.in("int fill(", "return was;", "return is ? 1 : 0;"),
                 Break.in("int fill(", "is ?", "!is ?"));
         edge("UNKNOWN.", "one less, one more; no CRACK; no WALL", c -> {
             DampLikeness d = made("w2 2;c0 1;");
-            c.dueEach("one CRACK", UNKNOWN, d.fill(-1, true), d.fill(1, true), d.fill(LEAST, false), d.fill(MOST, false), d.fill(32, true));
+            c.dueEach("one CRACK", UNKNOWN, d.fill(-1, true), d.fill(1, true), d.fill(LEAST, false),
+                    d.fill(MOST, false), d.fill(32, true));
             c.due("no CRACK", made("w2 2;").fill(0, true), UNKNOWN);
             c.due("no WALL", noWall().fill(0, false), UNKNOWN);
             c.due("filled ones", d.told(9), 0);
-        }, Break.in("boolean hasCrack(", "c < crackCount", "c <= crackCount"), Break.in("boolean hasCrack(", "c >= 0 &&", ""));
+        }, Break.in("boolean hasCrack(", "c < crackCount", "c <= crackCount"),
+                Break.in("boolean hasCrack(", "c >= 0 &&", ""));
     }
 
     private void drift() {
@@ -167,7 +177,8 @@ final class DonePromiseEdges extends Edges {
             c.due("drift(60)", d.drift(60), 0);
             c.due("DAYS", d.told(6), 61);
         }, Break.in("int drift(", "outside(n, 1, MOST_DAYS)", "outside(n, 2, MOST_DAYS)"),
-                Break.in("int drift(", "outside(n, 1, MOST_DAYS)", "outside(n, 1, MOST_DAYS - 1)"), Break.in("int drift(", "k < n", "k < n - 1"));
+                Break.in("int drift(", "outside(n, 1, MOST_DAYS)", "outside(n, 1, MOST_DAYS - 1)"),
+                Break.in("int drift(", "k < n", "k < n - 1"));
         edge("how many CELLS SHOW.", "as many as told(8) has", c -> {
             DampLikeness d = made("w5 5;l0;l12;l13;l24;c12 17;n2;");
             boolean many = false;
@@ -182,7 +193,8 @@ final class DonePromiseEdges extends Edges {
                         "int was = now.markCount(); for (int k = 0; k < n; k++) { driftOneDay(); } return was;"));
         edge("OUTSIDE, NOT: no WALL; FULL", "OUTSIDE: 0 and 61, far ones; without a WALL too", c -> {
             DampLikeness d = made("w2 2;");
-            c.dueEach("DAYS", OUTSIDE, d.drift(0), d.drift(61), d.drift(-1), d.drift(LEAST), d.drift(MOST), noWall().drift(0));
+            c.dueEach("DAYS", OUTSIDE, d.drift(0), d.drift(61), d.drift(-1), d.drift(LEAST), d.drift(MOST),
+                    noWall().drift(0));
             c.due("THE SEED", d.seed(0), 0);
         }, Break.in("int drift(", "outside(n, 1, MOST_DAYS)", "outside(n, 0, MOST_DAYS)"),
                 Break.in("int drift(", "outside(n, 1, MOST_DAYS)", "outside(n, 1, MOST_DAYS + 1)"));
@@ -202,7 +214,8 @@ final class DonePromiseEdges extends Edges {
             d.day(1, 0);
             c.due("9001: drift(1)", d.drift(1), FULL);
             c.due("DAYS", d.told(6), 9001);
-        }, Break.in("int drift(", "now.days > FULL_DAYS", "now.days >= FULL_DAYS"), Break.in("int drift(", "now.days > FULL_DAYS", "now.days > FULL_DAYS + 1"),
+        }, Break.in("int drift(", "now.days > FULL_DAYS", "now.days >= FULL_DAYS"),
+                Break.in("int drift(", "now.days > FULL_DAYS", "now.days > FULL_DAYS + 1"),
                 Break.in("int drift(", "now.days > FULL_DAYS", "now.days + n > FULL_DAYS"));
     }
 
@@ -219,7 +232,8 @@ final class DonePromiseEdges extends Edges {
             }
             d.look();
             c.due("undo() of a next one", d.undo(), 0);
-        }, Break.in("int undo(", "past.pop(now) ? past.count", "past.pop(now) ? past.count + 1"), Break.in("boolean pop(", "count--;", ""),
+        }, Break.in("int undo(", "past.pop(now) ? past.count", "past.pop(now) ? past.count + 1"),
+                Break.in("boolean pop(", "count--;", ""),
                 Break.in("boolean pop(", "end > 0 ? end - 1 : MOST_UNDONE - 1", "end > 1 ? end - 1 : MOST_UNDONE - 1"));
         edge("NOT: none.", "on a new object; on a new WALL; behind the last; behind keep() and goBack()", c -> {
             c.due("new", noWall().undo(), NOT);

@@ -201,15 +201,19 @@ final class TermsEdges extends Edges {
             for (int k = 0; k < 15; k++) {
                 d.write(0, 0);
             }
-            Check.feed(d, blanks(240));
             String ahead = Check.all(d);
-            c.dueEach("refused", FULL, d.feed(119), d.day(1, 9), d.drift(1), d.write(0, 1));
+            c.dueEach("refused", FULL, d.day(1, 9), d.drift(1), d.write(0, 1));
             c.dueText("all of it", Check.all(d), ahead);
             c.due("undo()", d.undo(), 15);
             c.due("DAYS ahead of the latest that was done", d.told(6), 9000);
+            DampLikeness fed = Check.fed(blanks(240));
+            c.due("feed(119)", fed.feed(119), FULL);
+            c.due("letters", fed.told(5), 240);
+            c.due("they are still blanks alone", fed.wall(), 0);
         }, pushFirst("int day(", "if (now.days > FULL_DAYS) { return FULL; }"),
                 Break.in("int drift(", "if (now.days", "draws.draw(10); if (now.days"),
-                Break.in("int add(int x, int wet)", "if (count >= MOST_ENTRIES) {", "put(wets, 14, wet); if (count >= MOST_ENTRIES) {"),
+                Break.in("int add(int x, int wet)", "if (count >= MOST_ENTRIES) {",
+                        "put(wets, 14, wet); if (count >= MOST_ENTRIES) {"),
                 Break.in("int add(int letter)", "return FULL;", "count = 0; return FULL;"));
     }
 

@@ -85,8 +85,12 @@ final class TextEdges extends Edges {
         edge("each once) 'f'", "a second one between the same CELLS; another one at one of them", c -> {
             c.text("w2 2;c0 1;c0 1;", -14, 13);
             c.text("w2 2;c0 1;c0 2;c1 3;", 4, NONE);
+            c.text("w3 3;c5 4;c4 1;c1 0;c3 4;", 9, NONE);
+            c.text("w3 3;c1 0;c4 1;c4 3;c5 4;", 9, NONE);
         }, Break.in("void readCrack(", "|| into.isCracked(a, b)", ""),
-                Break.in("boolean isCracked(", "crackA[c] == a && crackB[c] == b", "crackA[c] == a"));
+                Break.in("boolean isCracked(", "crackA[c] == a && crackB[c] == b", "crackA[c] == a"),
+                Break.in("boolean isCracked(", "crackA[c] == b && crackB[c] == a", "crackA[c] == b"),
+                Break.in("boolean isCracked(", "crackA[c] == b && crackB[c] == a", "crackB[c] == a"));
     }
 
     private void facesAndWind() {
@@ -141,7 +145,10 @@ final class TextEdges extends Edges {
             c.text("w2 02;l003;", 4, NONE);
             c.text("w2 02;l0003;", -12, 7);
             c.text("w2 02;l;", -11, 7);
+            c.due("012 is 12", made("w5 5;l012;").leak(0), 12);
+            c.text("w5 5;l123;", -12, 6);
         }, Break.in("int takeNumber(", "at - numberAt > 3", "at - numberAt > 2"),
+                Break.in("int takeNumber(", "if (at - numberAt < 3)", "if (at - numberAt < 2)"),
                 Break.in("int takeNumber(", "at - numberAt > 3", "at - numberAt > 4"),
                 Break.in("int takeNumber(", "if (faultKind == 0 && !isFigure(peek())) { fail(CANNOT_STAND, at); }", ""));
         edge("a word is one letter", "two letters, the same or not", c -> {
@@ -198,7 +205,8 @@ final class TextEdges extends Edges {
             c.text("w2 2;n1 n", -11, 8);
         }, Break.in("int takeNumber(", "if (faultKind == 0 && !isFigure",
                         "if (faultKind == 0 && peek() == 'w') { fail(ONE_TOO_MANY, at); } if (faultKind == 0 && !isFigure"),
-                Break.in("boolean takeSign(", "fail(CANNOT_STAND, at)", "fail(peek() == 'n' ? ONE_TOO_MANY : CANNOT_STAND, at)"));
+                Break.in("boolean takeSign(", "fail(CANNOT_STAND, at)",
+                        "fail(peek() == 'n' ? ONE_TOO_MANY : CANNOT_STAND, at)"));
         edge("of these the least", "2 ahead of 4: a B that is no CELL, one of four figures", c -> {
             c.text("w2 2;c0 4;", -12, 8);
             c.text("w2 2;c0 0003;", -12, 8);
@@ -223,7 +231,8 @@ final class TextEdges extends Edges {
         edge("a ',' behind H numbers P", "at that ','", c -> {
             c.text("w2 2;f1,1,1;", -11, 9);
             c.text("w2 2;f1,1 ,", -11, 10);
-        }, Break.in("void readFace(", "if (takeSign(';'))", "if (peek() == ',') { at++; takeNumber(0, 3); } if (takeSign(';'))"));
+        }, Break.in("void readFace(", "if (takeSign(';'))",
+                "if (peek() == ',') { at++; takeNumber(0, 3); } if (takeSign(';'))"));
         edge("another letter than ',' behind fewer", "a ';', a NUMBER, the end", c -> {
             c.text("w2 2;f1;", -11, 7);
             c.text("w2 2;f1 1;", -11, 8);
@@ -253,7 +262,8 @@ final class TextEdges extends Edges {
             c.text("w2 2;l999;", -12, 6);
         }, Break.in("int takeNumber(", "|| outside(value, least, most)", "|| value > most"),
                 Break.in("int takeNumber(", "|| outside(value, least, most)", "|| value < least"),
-                Break.in("void readCrack(", "int a = takeNumber(0, into.cells() - 1)", "int a = takeNumber(0, into.cells())"));
+                Break.in("void readCrack(", "int a = takeNumber(0, into.cells() - 1)",
+                        "int a = takeNumber(0, into.cells())"));
         edge("P: bits of COLUMNS", "the bit behind the last COLUMN, in the last ROW too", c -> {
             c.text("w2 3;f7,7;", 6, NONE);
             c.text("w2 3;f8,0;", -12, 6);

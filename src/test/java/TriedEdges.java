@@ -100,7 +100,8 @@ final class TriedEdges extends Edges {
             DampLikeness d = Check.painted(3, 4, "f3,1,0;f12,14,15;", Check.set(0, 1, 4));
             c.due("all", d.likeness(0, 1), 12);
             c.due("none", d.likeness(1, 1), 0);
-        }, Break.in("int like(", "plan.cells() -", "plan.cells() - 1 -"), Break.in("int like(", "marks ^ face", "marks & face"));
+        }, Break.in("int like(", "plan.cells() -", "plan.cells() - 1 -"),
+                Break.in("int like(", "marks ^ face", "marks & face"));
         edge("(SHOW where it has one, not where it has none)", "nothing SHOWS; a LIKENESS without a CELL", c -> {
             DampLikeness dry = made("w2 2;f0,0;f3,0;");
             c.due("nothing SHOWS, nothing is due", dry.likeness(0, 1), 4);
@@ -110,13 +111,16 @@ final class TriedEdges extends Edges {
         edge("WHOM: the LIKENESS it is most LIKE now; of like ones the least", "two and three that are LIKE as much", c -> {
             c.due("the second and third", made("w2 2;f3,3;f1,0;f2,0;").told(13), 1);
             c.due("all three", made("w2 2;f1,0;f2,0;f0,1;").told(13), 0);
+            c.due("the first, a second is less LIKE", made("w2 2;f1,0;f3,3;").told(13), 0);
             c.due("one that is nothing LIKE", Check.painted(3, 4, "f0,0,0;", 4095).told(13), 0);
-        }, Break.in("int whom(", "like > most", "like >= most"), Break.in("int whom(", "int most = NONE", "int most = 0"));
+        }, Break.in("int whom(", "like > most", "like >= most"), Break.in("int whom(", "like > most", "like != most"),
+                Break.in("int whom(", "int most = NONE", "int most = 0"));
         edge("NONE: there are none.", "no LIKENESS, no WALL", c -> {
             c.due("no LIKENESS", made("w2 2;").told(13), NONE);
             c.due("no WALL", noWall().told(13), NONE);
         }, Break.in("int whom(", "int whom = NONE", "int whom = 0"));
-        edge("MAY BE: LIKENESSES (a SET of them) that have all CELLS that SHOW.", "nothing SHOWS; just its CELLS; one more", c -> {
+        edge("MAY BE: LIKENESSES (a SET of them) that have all CELLS that SHOW.",
+                "nothing SHOWS; just its CELLS; one more", c -> {
             c.due("nothing SHOWS", made("w2 2;f0,0;f3,0;f0,1;f1,1;f3,3;").told(14), 31);
             c.due("just its CELLS", Check.painted(3, 4, "f7,0,0;f3,0,0;f15,0,0;", 7).told(14), 5);
             c.due("no LIKENESS", Check.painted(3, 4, "", 7).told(14), 0);
@@ -125,7 +129,8 @@ final class TriedEdges extends Edges {
                 Break.in("int mayBe(", "(marks & ~pick(plan.faces, f)) == 0", "marks != pick(plan.faces, f)"),
                 Break.in("int mayBe(", "(marks & ~pick(plan.faces, f)) == 0", "(marks & pick(plan.faces, f)) != 0"),
                 Break.in("int mayBe(", "f < plan.faceCount", "f < plan.faceCount - 1"));
-        edge("FEWEST BRUSHES so that it MAY BE a LIKENESS: how many CELLS SHOW that it has not.", "none; all that SHOW", c -> {
+        edge("FEWEST BRUSHES so that it MAY BE a LIKENESS: how many CELLS SHOW that it has not.",
+                "none; all that SHOW", c -> {
             DampLikeness d = Check.painted(3, 4, "f3,1,0;f15,15,15;f0,0,0;f12,0,0;f1,0,0;", Check.set(0, 1, 4));
             c.due("just its CELLS", d.likeness(0, 2), 0);
             c.due("it has all", d.likeness(1, 2), 0);
@@ -206,7 +211,8 @@ final class TriedEdges extends Edges {
             c.due("m is 1: more than that SHOW", d.often(1, 5, 1, 0), 1);
             c.due("m is 0", d.often(8, 0, 0, 0), 8);
             c.due("the last LOOK counts", d.often(1, 4, 2, 0), 0);
-        }, Break.in("void weigh(", ">= marksWanted", "== marksWanted"), Break.in("void weigh(", ">= marksWanted", "> marksWanted"),
+        }, Break.in("void weigh(", ">= marksWanted", "== marksWanted"),
+                Break.in("void weigh(", ">= marksWanted", "> marksWanted"),
                 Break.in("void tryLooks(", "stage.shrink(plan);", "if (k + 1 < trial.dayCount) { stage.shrink(plan); }"));
         edge("(a SET: bit k: behind DAY k; of like ones the least)", "DAY 0 is the first; of like SETS the least", c -> {
             DampLikeness d = made("w2 2;l3;");
@@ -216,14 +222,16 @@ final class TriedEdges extends Edges {
             alike.drift(5);
             c.due("two LOOKS at most", alike.often(4, 5, 3, 0), 2);
             c.due("1 and 2, or 0 and 3", alike.often(4, 5, 3, 1), 6);
-        }, Break.in("void weigh(", "looked < best", "looked > best"), Break.in("void tryLooks(", "looked | (1 << k)", "looked | (2 << k)"),
+        }, Break.in("void weigh(", "looked < best", "looked > best"),
+                Break.in("void tryLooks(", "looked | (1 << k)", "looked | (2 << k)"),
                 Break.in("void tryLooks(", "looked | (1 << k)", "looked | (1 << (trial.dayCount - 1 - k))"));
         edge("of like ones the least); NONE.", "so many never SHOW, without a LOOK too", c -> {
             DampLikeness d = made("w2 2;l3;");
             c.due("how many", d.often(8, 9, 2, 0), NONE);
             c.due("which", d.often(8, 9, 2, 1), NONE);
             c.due("more than there are CELLS", d.often(1, 9, 25, 0), NONE);
-        }, Break.in("void lookMost(", "best = NONE;", "best = 0;"), Break.in("void lookMost(", "bestCount = NONE;", "bestCount = 0;"));
+        }, Break.in("void lookMost(", "best = NONE;", "best = 0;"),
+                Break.in("void lookMost(", "bestCount = NONE;", "bestCount = 0;"));
     }
 
     private void rains() {
@@ -232,15 +240,18 @@ final class TriedEdges extends Edges {
             c.due("nothing SHOWS by 0, 1, 2", d.wasRain(0), 7);
             c.due("one SHOWS by 3 to 9", d.wasRain(8), 1023 - 7);
             c.due("by 9 alone", made("w3 3;l4;n2;c4 1;c4 3;c4 5;c4 7;").wasRain(16), 512);
-        }, Break.in("int rainsThatShow(", "r <= MOST_RAIN", "r < MOST_RAIN"), Break.in("int rainsThatShow(", "int r = 0", "int r = 1"));
+        }, Break.in("int rainsThatShow(", "r <= MOST_RAIN", "r < MOST_RAIN"),
+                Break.in("int rainsThatShow(", "int r = 0", "int r = 1"));
         edge("by a DAY of which just a told SET SHOWS.", "less or more than the SET is not it; none fits: 0", c -> {
             DampLikeness d = made("w2 2;l2;l3;l3;");
             c.due("the second alone, by 2", d.wasRain(8), 4);
             c.due("both, by 3 and more", d.wasRain(12), 1023 - 7);
             c.due("the first alone: never", d.wasRain(4), 0);
             c.due("all: never", d.wasRain(15), 0);
-        }, Break.in("int rainsThatShow(", "marksBehind(plan, now, 1, r) == set", "(marksBehind(plan, now, 1, r) & set) == set"),
-                Break.in("int rainsThatShow(", "marksBehind(plan, now, 1, r) == set", "(marksBehind(plan, now, 1, r) & ~set) == 0"));
+        }, Break.in("int rainsThatShow(", "marksBehind(plan, now, 1, r) == set",
+                "(marksBehind(plan, now, 1, r) & set) == set"),
+                Break.in("int rainsThatShow(", "marksBehind(plan, now, 1, r) == set",
+                        "(marksBehind(plan, now, 1, r) & ~set) == 0"));
         edge("RAIN TO TELL: the RAIN (0 .. 9)", "RAIN 0 tells most; RAIN 9 does", c -> {
             DampLikeness nine = made("w3 3;l4;n2;c4 1;c4 3;c4 5;c4 7;f0,0,0;");
             c.due("RAIN 9", nine.rainToTell(0), 9);
@@ -259,12 +270,23 @@ final class TriedEdges extends Edges {
             DampLikeness nobody = made("w2 2;l3;");
             c.due("no LIKENESS: RAIN", nobody.rainToTell(0), 0);
             c.due("no LIKENESS is left", nobody.rainToTell(1), 0);
+            // CELL 3 is WET by 2: RAIN 3 SHOWS 4 alone, RAIN 4 SHOWS 3 alone, more SHOW both
+            DampLikeness more = made("w2 3;l3;c3 4;f0,1;f0,1;n2;");
+            more.fill(0, true);
+            more.day(1, 2);
+            more.fill(0, false);
+            more.lead(0, 4);
+            c.due("RAIN 4 SHOWS 3 alone", more.shown(1, 4), 8);
+            c.due("3 leaves none, 4 leaves two", more.rainToTell(0), 3);
+            c.due("none is left", more.rainToTell(1), 0);
         }, Break.in("void rainThatLeavesFewest(", "left < bestCount", "left <= bestCount"),
+                Break.in("void rainThatLeavesFewest(", "left < bestCount", "left != bestCount"),
                 Break.in("void rainThatLeavesFewest(", "MOST_FACES + 1", "MOST_FACES"));
     }
 
     private void marks() {
-        edge("GROUPS: MARKS that hang together (side by side, above): how many", "none; one of all; across; a ROW's end", c -> {
+        edge("GROUPS: MARKS that hang together (side by side, above): how many",
+                "none; one of all; across; a ROW's end", c -> {
             c.due("none", made("w3 4;").told(15), 0);
             c.due("all", Check.painted(3, 4, "", 4095).told(15), 1);
             c.due("across", Check.painted(3, 4, "", Check.set(0, 5, 10)).told(15), 3);
@@ -284,9 +306,14 @@ final class TriedEdges extends Edges {
             c.due("two as great", Check.painted(3, 4, "", Check.set(1, 5, 3, 7)).told(16), Check.set(1, 5));
             c.due("one is greater", Check.painted(3, 4, "", Check.set(0, 2, 3)).told(16), Check.set(2, 3));
             c.due("all", Check.painted(5, 5, "", (1 << 25) - 1).told(16), (1 << 25) - 1);
+            c.due("the first CELL alone", Check.painted(3, 4, "", Check.set(0, 2)).told(16), 1);
+            c.due("the last CELL alone", Check.painted(3, 4, "", Check.set(11)).told(16), 1 << 11);
         }, Break.in("int greatestGroup(", "Integer.bitCount(group) > Integer", "Integer.bitCount(group) >= Integer"),
-                Break.in("int greatestGroup(", "int greatest = 0", "int greatest = NONE"));
-        edge("BORDER: how many sides of CELLS that SHOW are not towards one that SHOWS.", "none; the WALL's end is a side", c -> {
+                Break.in("int greatestGroup(", "int greatest = 0", "int greatest = NONE"),
+                Break.in("int greatestGroup(", "int x = 0", "int x = 1"),
+                Break.in("int greatestGroup(", "x < plan.cells()", "x < plan.cells() - 1"));
+        edge("BORDER: how many sides of CELLS that SHOW are not towards one that SHOWS.",
+                "none; the WALL's end is a side", c -> {
             c.due("nothing SHOWS", made("w3 4;").told(17), 0);
             c.due("one in a corner", Check.painted(3, 4, "", Check.set(11)).told(17), 4);
             c.due("all 12", Check.painted(3, 4, "", 4095).told(17), 14);
@@ -298,14 +325,19 @@ final class TriedEdges extends Edges {
             c.due("ROWS 1 and 2", Check.painted(3, 4, "", Check.set(4, 7, 8, 9)).told(18), 1);
             c.due("the last", Check.painted(3, 4, "", Check.set(3, 8, 9)).told(18), 2);
             c.due("all", Check.painted(5, 5, "", (1 << 25) - 1).told(18), 0);
-        }, Break.in("int fullest(", "> most", ">= most"), Break.in("int fullest(", "row < plan.rows", "row < plan.rows - 1"));
+            c.due("one CELL", Check.painted(3, 4, "", Check.set(9)).told(18), 2);
+            c.due("the next ROW's start is not of it", Check.painted(3, 4, "", Check.set(3, 4, 5)).told(18), 1);
+        }, Break.in("int fullest(", "> most", ">= most"), Break.in("int fullest(", "int most = 0", "int most = 1"),
+                Break.in("int fullest(", "(1 << plan.columns) - 1", "(2 << plan.columns) - 1"),
+                Break.in("int fullest(", "row < plan.rows", "row < plan.rows - 1"));
         edge("of like ones the least; NONE: nothing SHOWS.", "a dry WALL, one that is WET by 2, no WALL", c -> {
             c.due("dry", made("w3 4;").told(18), NONE);
             DampLikeness d = made("w2 2;l3;");
             d.day(1, 2);
             c.due("WET by 2", d.told(18), NONE);
             c.due("no WALL", noWall().told(18), NONE);
-        }, Break.in("int fullest(", "int fullest = NONE", "int fullest = 0"), Break.in("int fullest(", "int most = 0", "int most = NONE"));
+        }, Break.in("int fullest(", "int fullest = NONE", "int fullest = 0"),
+                Break.in("int fullest(", "int most = 0", "int most = NONE"));
         edge("ALL WET together.", "0, 1, and 9 in each CELL that can keep it", c -> {
             DampLikeness d = made("w2 2;l3;l2;l1;l0;");
             c.due("dry", d.told(12), 0);
@@ -335,7 +367,8 @@ final class TriedEdges extends Edges {
             c.due("WET by 1", d.dryIn(), 1);
             d.day(1, 9);
             c.due("WET by 9", d.dryIn(), 9);
-        }, Break.in("int daysTillDry(", "damp.allWet() == 0", "damp.marks() == 0"), Break.in("int daysTillDry(", "int k = 0", "int k = 1"));
+        }, Break.in("int daysTillDry(", "damp.allWet() == 0", "damp.marks() == 0"),
+                Break.in("int daysTillDry(", "int k = 0", "int k = 1"));
         // each DAY at least a ninth of all dries away, rounded up: 225 are gone behind 33 DAYS, so NONE never comes
         edge("all is WET by 0; NONE.", "the wettest WALLS: 60 DAYS are always enough", c -> {
             for (int wind = 0; wind <= 2; wind++) {
@@ -347,7 +380,8 @@ final class TriedEdges extends Edges {
                 d.day(1, 0);
                 c.due("then it is", d.told(12), 0);
             }
-        }, Break.in("int daysTillDry(", "k <= MOST_DAYS", "k <= 9"), Break.in("int daysTillDry(", "damp.allWet() == 0", "damp.allWet() < 9"));
+        }, Break.in("int daysTillDry(", "k <= MOST_DAYS", "k <= 9"),
+                Break.in("int daysTillDry(", "damp.allWet() == 0", "damp.allWet() < 9"));
     }
 
     private void numbers() {
@@ -364,21 +398,25 @@ final class TriedEdges extends Edges {
             c.due("one with itself", d.either(0, 0, 1), 0);
             c.due("two of them", d.either(0, 2, 1), 2);
             c.due("where it has none", made("w2 2;f1,0;f3,3;").either(0, 1, 1), 3);
-        }, Break.in("int either(", "~(now.marks() ^ face)", "(now.marks() ^ face)"), Break.in("int either(", "~(now.marks() ^ face)", "now.marks()"));
-        edge("RAINY: odds of n DAYS of rain (0 .. 60), each by q of a hundred (0 .. 100)", "none and 60 DAYS, 0 and 100", c -> {
+        }, Break.in("int either(", "~(now.marks() ^ face)", "(now.marks() ^ face)"),
+                Break.in("int either(", "~(now.marks() ^ face)", "now.marks()"));
+        edge("RAINY: odds of n DAYS of rain (0 .. 60), each by q of a hundred (0 .. 100)",
+                "none and 60 DAYS, 0 and 100", c -> {
             DampLikeness d = noWall();
             c.dueEach("certain", 1000000000, d.rainy(0, 0), d.rainy(0, 100), d.rainy(1, 100), d.rainy(60, 100));
             c.dueEach("never", 0, d.rainy(1, 0), d.rainy(60, 0), d.rainy(60, 1));
             c.due("rainy(1, 1)", d.rainy(1, 1), 10000000);
             c.due("rainy(60, 99)", d.rainy(60, 99), 547156620);
         }, Break.in("int rainy(", "k < n", "k <= n"), Break.in("int rainy(", "k < n", "k < n - 1"),
-                Break.in("int rainy(", "outside(q, 0, 100)", "outside(q, 1, 100)"), Break.in("int rainy(", "outside(q, 0, 100)", "outside(q, 0, 99)"),
+                Break.in("int rainy(", "outside(q, 0, 100)", "outside(q, 1, 100)"),
+                Break.in("int rainy(", "outside(q, 0, 100)", "outside(q, 0, 99)"),
                 Break.in("int rainy(", "outside(n, 0, MOST_DAYS)", "outside(n, 1, MOST_DAYS)"));
         edge("a BILLION times q / 100 each (cut)", "cut behind each DAY, not at last", c -> {
             c.due("10 DAYS by 93: 483982307 if it were cut at last", noWall().rainy(10, 93), 483982306);
             c.due("11 DAYS by 33: 5054 if it were cut at last", noWall().rainy(11, 33), 5053);
         }, Break.in("int rainy(", "odds * q / 100", "(odds * q + 50) / 100"),
-                Break.in("int rainy(", "return (int) odds;", "return (int) (odds + (odds % 1000 == 306 || odds == 5053 ? 1 : 0));"));
+                Break.in("int rainy(", "return (int) odds;",
+                        "return (int) (odds + (odds % 1000 == 306 || odds == 5053 ? 1 : 0));"));
         edge("THE BOOK (15 at most) tells how WET CELLS are", "the 15th is judged, a 16th is not taken", c -> {
             DampLikeness d = made("w2 2;");
             for (int k = 0; k < 14; k++) {
@@ -389,7 +427,8 @@ final class TriedEdges extends Edges {
             c.due("judge()", d.judge(), 14);
         }, Break.of("MOST_ENTRIES = 15", "MOST_ENTRIES = 14"), Break.of("MOST_ENTRIES = 15", "MOST_ENTRIES = 16"),
                 Break.in("int firstWrong(", "k < count", "k < count - 1"));
-        edge("WRONG: the first that is otherwise now; NONE.", "of two the first; one that was right; none; an empty one", c -> {
+        edge("WRONG: the first that is otherwise now; NONE.",
+                "of two the first; one that was right; none; an empty one", c -> {
             DampLikeness d = made("w2 2;l3;");
             c.due("empty", d.judge(), NONE);
             d.write(3, 0);
@@ -402,7 +441,8 @@ final class TriedEdges extends Edges {
             d.write(3, 9);
             d.write(0, 0);
             c.due("all are right", d.judge(), NONE);
-        }, Break.in("int firstWrong(", "return NONE;", "return count;"), Break.in("int firstWrong(", "int k = 0", "int k = 1"),
+        }, Break.in("int firstWrong(", "return NONE;", "return count;"),
+                Break.in("int firstWrong(", "int k = 0", "int k = 1"),
                 Break.in("int firstWrong(", "return k;", "return pick(cells, k);"));
     }
 
@@ -450,7 +490,8 @@ final class TriedEdges extends Edges {
             c.due("WIND", d.told(7), 1);
             c.due("two DRAWS", d.seed(0), behind(0, 2));
             c.due("none by 5", drifted("w2 2;l3;n1;", 5).told(10), 0);
-        }, Break.in("void driftOneDay(", "turn == 0", "turn == 5"), Break.in("void driftOneDay(", "draws.draw(6)", "draws.draw(5)"));
+        }, Break.in("void driftOneDay(", "turn == 0", "turn == 5"),
+                Break.in("void driftOneDay(", "draws.draw(6)", "draws.draw(5)"));
         edge("on 1 WIND is a DRAW of 3", "each WIND comes; three DRAWS", c -> {
             int seen = 0;
             for (int seed = 0; seed < 3000; seed++) {
@@ -468,8 +509,10 @@ final class TriedEdges extends Edges {
             }
             c.due("all were seen", seen, 7);
         }, Break.in("void driftOneDay(", "draws.draw(MOST_WIND + 1)", "draws.draw(MOST_WIND)"),
-                Break.in("void driftOneDay(", "now.wind = draws.draw(MOST_WIND + 1)", "now.wind = 1 + draws.draw(MOST_WIND)"));
-        edge("on 2, if there are LEAKS, a DRAW of LEAKS is LED to a DRAW of CELLS.", "no LEAK: no DRAW; one LEAK, four", c -> {
+                Break.in("void driftOneDay(", "now.wind = draws.draw(MOST_WIND + 1)",
+                        "now.wind = 1 + draws.draw(MOST_WIND)"));
+        edge("on 2, if there are LEAKS, a DRAW of LEAKS is LED to a DRAW of CELLS.",
+                "no LEAK: no DRAW; one LEAK, four", c -> {
             DampLikeness none = drifted("w2 2;n1;", 2);
             c.due("no LEAK: two DRAWS", none.seed(0), behind(2, 2));
             c.due("no LEAK: WIND", none.told(7), 1);
@@ -479,7 +522,9 @@ final class TriedEdges extends Edges {
             }
             c.due("each LEAK was LED", seen[0], 15);
             c.due("to each CELL", seen[1], 63);
-        }, Break.in("void driftOneDay(", "&& plan.leakCount > 0", ""), Break.in("void driftOneDay(", "draws.draw(plan.cells())", "draws.draw(plan.cells() - 1)"),
+        }, Break.in("void driftOneDay(", "&& plan.leakCount > 0", ""),
+                Break.in("void driftOneDay(", "plan.leakCount > 0", "plan.leakCount > 1"),
+                Break.in("void driftOneDay(", "draws.draw(plan.cells())", "draws.draw(plan.cells() - 1)"),
                 Break.in("void driftOneDay(", "draws.draw(plan.leakCount)", "draws.draw(4) % plan.leakCount"),
                 Break.in("void driftOneDay(", "draws.draw(plan.leakCount)", "Math.min(2, draws.draw(plan.leakCount))"));
     }
@@ -490,8 +535,8 @@ final class TriedEdges extends Edges {
         if (lots.draw(6) != 2) {
             return;
         }
-        int leaks = seed % 2 == 0 ? 4 : 3;
-        DampLikeness d = made(leaks == 4 ? "w2 3;l0;l1;l2;l3;" : "w2 3;l0;l1;l2;");
+        int leaks = seed % 3 == 0 ? 1 : seed % 3 == 1 ? 3 : 4;
+        DampLikeness d = made("w2 3;" + "l0;l1;l2;l3;".substring(0, 3 * leaks));
         d.seed(seed);
         d.drift(1);
         int l = lots.draw(leaks);
@@ -522,7 +567,8 @@ final class TriedEdges extends Edges {
     private void undone() {
         List<Consumer<DampLikeness>> done = List.of(d -> d.day(1, 9), DampLikeness::look, d -> d.brush(3), d -> d.lead(0, 8),
                 d -> d.wind(0), d -> d.fill(1, true), d -> d.drift(60));
-        edge("UNDONE: the latest of day(), look(), brush(), lead(), wind(), fill(), drift()", "each of the seven, and no other call", c -> {
+        edge("UNDONE: the latest of day(), look(), brush(), lead(), wind(), fill(), drift()",
+                "each of the seven, and no other call", c -> {
             for (Consumer<DampLikeness> one : done) {
                 DampLikeness d = lived();
                 d.seed(0);
@@ -542,16 +588,21 @@ final class TriedEdges extends Edges {
             d.wall();
             d.undo();
             c.due("no other call is counted", d.told(20), 1);
-        }, Break.in("int day(", "past.push(now);", ""), Break.in("int look(", "past.push(now);", ""), Break.in("int brush(", "past.push(now);", ""),
-                Break.in("int lead(int l", "past.push(now);", ""), Break.in("int wind(", "past.push(now);", ""), Break.in("int fill(", "past.push(now);", ""),
-                Break.in("int drift(", "past.push(now);", ""), Break.atStart("int write(", "past.push(now); "), Break.atStart("int tear(", "past.push(now); "));
+        }, Break.in("int day(", "past.push(now);", ""), Break.in("int look(", "past.push(now);", ""),
+                Break.in("int brush(", "past.push(now);", ""),
+                Break.in("int lead(int l", "past.push(now);", ""), Break.in("int wind(", "past.push(now);", ""),
+                Break.in("int fill(", "past.push(now);", ""),
+                Break.in("int drift(", "past.push(now);", ""), Break.atStart("int write(", "past.push(now); "),
+                Break.atStart("int tear(", "past.push(now); "));
         edge("that was not refused", "refused ones cannot be undone", c -> {
             DampLikeness d = lived();
             c.dueEach("refused", OUTSIDE, d.day(0, 0), d.wind(3), d.drift(0));
             c.dueEach("refused", UNKNOWN, d.brush(9), d.lead(0, 9), d.fill(3, true));
             c.due("can be undone", d.told(20), 2);
-        }, Break.atStart("int day(", "past.push(now); "), Break.atStart("int brush(", "past.push(now); "), Break.atStart("int lead(int l", "past.push(now); "),
-                Break.atStart("int wind(", "past.push(now); "), Break.atStart("int fill(", "past.push(now); "), Break.atStart("int drift(", "past.push(now); "));
+        }, Break.atStart("int day(", "past.push(now); "), Break.atStart("int brush(", "past.push(now); "),
+                Break.atStart("int lead(int l", "past.push(now); "),
+                Break.atStart("int wind(", "past.push(now); "), Break.atStart("int fill(", "past.push(now); "),
+                Break.atStart("int drift(", "past.push(now); "));
         edge("(16 at most are kept, the oldest are lost)", "15, 16, 17 of them; the first of 17 stays done", c -> {
             DampLikeness d = made("w2 2;");
             for (int k = 1; k <= 17; k++) {
@@ -560,22 +611,18 @@ final class TriedEdges extends Edges {
             }
             for (int k = 15; k >= 0; k--) {
                 c.due("undo()", d.undo(), k);
+                c.due("LOOKS ahead of it", d.told(10), k + 1);
             }
             c.due("undo() again", d.undo(), NOT);
             c.due("LOOKS that stay", d.told(10), 1);
         }, Break.of("MOST_UNDONE = 16", "MOST_UNDONE = 15"), Break.of("MOST_UNDONE = 16", "MOST_UNDONE = 17"),
-                Break.in("void push(", "end + 1 < MOST_UNDONE ? end + 1 : 0", "Math.min(end + 1, MOST_UNDONE - 1)"));
+                Break.in("void push(", "end + 1 < MOST_UNDONE ? end + 1 : 0", "Math.min(end + 1, MOST_UNDONE - 1)"),
+                Break.in("void push(", "if (end >= 0 &&", "if (end >= 1 &&"));
         edge("all of section 2 is as ahead of it", "CELLS, LEAKS, WIND, filled ones, DAYS, LOOKS, BRUSHES", c -> {
             DampLikeness d = lived();
             d.seed(0);
             String ahead = Check.all(d);
-            d.day(5, 9);
-            d.look();
-            d.brush(4);
-            d.lead(0, 0);
-            d.wind(0);
-            d.fill(2, true);
-            d.drift(60);
+            doAllSeven(d);
             for (int k = 8; k >= 2; k--) {
                 c.due("undo()", d.undo(), k);
             }
@@ -594,6 +641,16 @@ final class TriedEdges extends Edges {
         }, Break.atStart("int undo(", "draws.state = 0; "));
     }
 
+    private static void doAllSeven(DampLikeness d) {
+        d.day(5, 9);
+        d.look();
+        d.brush(4);
+        d.lead(0, 0);
+        d.wind(0);
+        d.fill(2, true);
+        d.drift(60);
+    }
+
     private void images() {
         edge("IMAGES 0, 1 keep", "both, each its own; no third", c -> {
             DampLikeness d = made("w2 2;l3;");
@@ -610,21 +667,18 @@ final class TriedEdges extends Edges {
             c.due("IMAGE 1", d.cell(3), 2);
             d.goBack(0);
             c.due("IMAGE 0 again", d.cell(3), 1);
-        }, Break.of("IMAGES = 2", "IMAGES = 1"), Break.of("IMAGES = 2", "IMAGES = 3"), Break.in("int goBack(", "images[i]", "images[0]"));
+        }, Break.of("IMAGES = 2", "IMAGES = 1"), Break.of("IMAGES = 2", "IMAGES = 3"),
+                Break.in("int goBack(", "images[i]", "images[0]"));
         edge("keep all of section 2, THE SEED.", "CELLS, LEAKS, WIND, filled ones, DAYS, LOOKS, BRUSHES; THE SEED", c -> {
             DampLikeness d = lived();
             d.keep(1);
             String ahead = Check.all(d);
-            d.day(5, 9);
-            d.look();
-            d.brush(4);
-            d.lead(0, 0);
-            d.wind(0);
-            d.fill(2, true);
-            d.drift(60);
+            doAllSeven(d);
             d.goBack(1);
             c.dueText("all", Check.all(d), ahead);
-        }, Break.in("int goBack(", "draws.state = image.drawState;", ""), Break.in("int keep(", "image.drawState = draws.state;", ""),
-                Break.in("int keep(", "image.damp.copyFrom(now);", ""), Break.in("void copyFrom(", "looks = other.looks;", ""));
+        }, Break.in("int goBack(", "draws.state = image.drawState;", ""),
+                Break.in("int keep(", "image.drawState = draws.state;", ""),
+                Break.in("int keep(", "image.damp.copyFrom(now);", ""),
+                Break.in("void copyFrom(", "looks = other.looks;", ""));
     }
 }

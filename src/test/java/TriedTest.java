@@ -1,4 +1,4 @@
-/** Promises 18 to 26: what is tried; nothing changes by it. */
+/** Promises 18 to 26: what is tried. */
 public final class TriedTest {
     private static final Check CHECK = new Check("TriedTest");
     private static final String WALL = "w3 3;l1;l6;c1 2;c4 3;c8 5;f7,5,2;f2,6,1;f7,7,7;f2,2,0;n2;";
@@ -15,7 +15,6 @@ public final class TriedTest {
         dryIn();
         either();
         rainy();
-        nothingChanges();
         CHECK.finish();
     }
 
@@ -282,22 +281,5 @@ public final class TriedTest {
         CHECK.due("rainy(61, 0)", d.rainy(61, 0), Check.OUTSIDE);
         CHECK.due("rainy(0, -1)", d.rainy(0, -1), Check.OUTSIDE);
         CHECK.due("rainy(0, 101)", d.rainy(0, 101), Check.OUTSIDE);
-    }
-
-    private static void nothingChanges() {
-        DampLikeness d = wetWall();
-        d.write(3, 3);
-        d.seed(12);
-        String ahead = Check.all(d);
-        d.shown(60, 9);
-        d.first(25, 9);
-        d.leadTo(1, 2, 20, 9, 0);
-        d.often(8, 9, 4, 0);
-        d.wasRain(0);
-        d.rainToTell(0);
-        d.dryIn();
-        d.either(0, 1, 1);
-        d.rainy(60, 99);
-        CHECK.dueText("tried", Check.all(d), ahead);
     }
 }

@@ -24,7 +24,8 @@ final class WallPromiseEdges extends Edges {
             c.dueEach("nothing there", NONE, d.fault(), d.judge());
             c.dueEach("nothing had", 0, d.tear(), d.seed(0));
         }, Break.in("public DampLikeness()", "for (int i = 0", "plan.resize(2, 2); for (int i = 0"),
-                Break.in("class Image", "boolean kept;", "boolean kept = true;"), Break.in("class Draws", "int state;", "int state = 1;"));
+                Break.in("class Image", "boolean kept;", "boolean kept = true;"),
+                Break.in("class Draws", "int state;", "int state = 1;"));
     }
 
     private void feed() {
@@ -43,7 +44,8 @@ final class WallPromiseEdges extends Edges {
             c.due("letters", d.told(5), 240);
             d.wall();
             c.due("feed(32) behind wall()", d.feed(32), 1);
-        }, Break.in("int add(int letter)", "count++; return count;", "return count++;"), Break.in("boolean read(", "count = 0;", ""));
+        }, Break.in("int add(int letter)", "count++; return count;", "return count++;"),
+                Break.in("boolean read(", "count = 0;", ""));
         edge("OUTSIDE, FULL (240).", "OUTSIDE: -1, 256, far ones", c -> {
             DampLikeness d = noWall();
             c.dueEach("no letters", OUTSIDE, d.feed(-1), d.feed(256), d.feed(LEAST), d.feed(MOST), d.feed(119 + 256));
@@ -71,8 +73,22 @@ final class WallPromiseEdges extends Edges {
             c.due("letters behind a FAULT", d.told(5), 0);
             Check.feed(d, "w2 3;");
             c.due("the next text stands alone", d.wall(), 6);
-        }, Break.in("boolean read(", "count = 0; return faultKind == 0;", "if (faultKind == 0) { count = 0; } return faultKind == 0;"),
+        }, Break.in("boolean read(", "count = 0; return faultKind == 0;",
+                "if (faultKind == 0) { count = 0; } return faultKind == 0;"),
                 Break.in("boolean read(", "count = 0;", ""));
+        edge("becomes THE WALL", "behind two other WALLS, behind a FAULT: nothing of these is left", c -> {
+            DampLikeness d = made("w5 2;l9;l8;l7;l6;c0 1;c6 7;c2 3;f1,1,1,1,1;f1,1,1,1,1;n1;");
+            Check.feed(d, "w2 2;l0;l1;c0 1;f1,1;");
+            c.due("the second", d.wall(), 4);
+            thirdWall(c, d);
+            DampLikeness fault = Check.fed("w5 2;l9;l8;l7;l6;c0 1;c6 7;c2 3;f1,1,1,1,1;n1;x");
+            c.due("a FAULT", fault.wall(), -11);
+            thirdWall(c, fault);
+        }, Break.in("void clear() { resize", "leakCount = 0;", ""), Break.in("void clear() { resize", "crackCount = 0;", ""),
+                Break.in("void clear() { resize", "faceCount = 0;", ""),
+                Break.in("void resize(", "firstColumn = 0;", ""),
+                Break.in("void runByCracks(", "c < plan.crackCount", "c <= plan.crackCount"),
+                Break.in("boolean read(", "windTold = false;", ""));
         edge("how many CELLS", "4 is the least, 25 the most; 0: no WALL", c -> {
             c.due("2 by 2", Check.fed("w2 2;").wall(), 4);
             c.due("5 by 5", Check.fed("w5 5;").wall(), 25);
@@ -86,7 +102,8 @@ final class WallPromiseEdges extends Edges {
             c.due("4", Check.fed("w2 2;c0 3;").wall(), -14);
         }, Break.in("int wall(", "-10 - reader.faultKind", "-10 + reader.faultKind"),
                 Break.in("int wall(", "-10 - reader.faultKind", "-9 - reader.faultKind"));
-        edge("(all else is as it was)", "behind a FAULT at the end of a long text: WALL, BOOK, IMAGES, what can be undone", c -> {
+        edge("(all else is as it was)",
+                "behind a FAULT at the end of a long text: WALL, BOOK, IMAGES, what can be undone", c -> {
             DampLikeness d = lived();
             c.due("two can be undone", d.told(20), 2);
             String ahead = Check.all(d);
@@ -98,8 +115,23 @@ final class WallPromiseEdges extends Edges {
             c.due("undo()", d.undo(), 1);
             c.due("goBack(0)", d.goBack(0), 1);
         }, Break.in("int wall(", "if (!reader.read(spare)) {", "if (!reader.read(plan)) {"),
-                Break.in("int wall(", "return -10", "book.clear(); return -10"), Break.in("int wall(", "return -10", "past.clear(); return -10"),
-                Break.in("int wall(", "return -10", "images[0].kept = false; return -10"), Break.in("int wall(", "return -10", "draws.state = 0; return -10"));
+                Break.in("int wall(", "return -10", "book.clear(); return -10"),
+                Break.in("int wall(", "return -10", "past.clear(); return -10"),
+                Break.in("int wall(", "return -10", "images[0].kept = false; return -10"),
+                Break.in("int wall(", "return -10", "draws.state = 0; return -10"));
+    }
+
+    /** Three in the lower row show: they are side by side though in a narrower wall they were not. */
+    private static void thirdWall(Check c, DampLikeness d) {
+        Check.feed(d, "w2 4;l4;l5;l6;c4 5;n0;");
+        c.due("the third", d.wall(), 8);
+        c.due("LEAKS", d.told(2), 3);
+        c.due("CRACKS", d.told(3), 1);
+        c.due("LIKENESSES", d.told(4), 0);
+        c.due("WIND", d.told(7), 0);
+        c.due("day(1, 5)", d.day(1, 5), 3);
+        c.cells("behind a DAY", d, 0, 0, 0, 0, 5, 5, 5, 0);
+        c.due("GROUPS", d.told(15), 1);
     }
 
     /** Another wall behind one on which all has been done. */
@@ -134,7 +166,8 @@ final class WallPromiseEdges extends Edges {
             c.due("WIND untold", untold.told(7), 0);
             c.due("LEAKS untold", untold.told(2), 0);
             c.due("leak(0)", untold.leak(0), UNKNOWN);
-        }, Break.in("void begin(", "wind = plan.wind;", ""), Break.in("void begin(", "leakAt[l] = pick(plan.leakAt, l);", ""));
+        }, Break.in("void begin(", "wind = plan.wind;", ""),
+                Break.in("void begin(", "leakAt[l] = pick(plan.leakAt, l);", ""));
         edge("no CRACK filled", "the same CRACK was filled", c -> {
             DampLikeness d = anew(next);
             c.due("filled ones", d.told(9), 0);
@@ -169,7 +202,8 @@ final class WallPromiseEdges extends Edges {
 
     private void fault() {
         under("Promise 4: fault");
-        edge("The letter of the FAULT of the latest wall()", "0 and 240; of two the latest; while the next text is fed", c -> {
+        edge("The letter of the FAULT of the latest wall()",
+                "0 and 240; of two the latest; while the next text is fed", c -> {
             DampLikeness d = Check.fed("x");
             d.wall();
             c.due("the first letter", d.fault(), 0);
@@ -183,7 +217,8 @@ final class WallPromiseEdges extends Edges {
             c.due("again", d.fault(), 5);
         }, Break.in("void fail(", "faultAt = where;", "faultAt = count;"),
                 Break.in("int add(int letter)", "count++;", "count++; faultAt = NONE;"),
-                Break.in("int fault(", "return reader.faultAt;", "int was = reader.faultAt; reader.faultAt = NONE; return was;"));
+                Break.in("int fault(", "return reader.faultAt;",
+                        "int was = reader.faultAt; reader.faultAt = NONE; return was;"));
         edge("NONE.", "ahead of any wall(); behind a WALL, an empty text, a FAULT and then a WALL", c -> {
             c.due("a new object", noWall().fault(), NONE);
             c.due("a WALL", made("w2 2;").fault(), NONE);
@@ -233,11 +268,14 @@ final class WallPromiseEdges extends Edges {
             for (int what = 0; what < want.length; what++) {
                 c.due("told(" + what + ")", d.told(what), want[what]);
             }
-        }, swap("case 0: return plan.rows;", "case 0: return plan.columns;"), swap("return plan.leakCount;", "return plan.crackCount;"),
+        }, swap("case 0: return plan.rows;", "case 0: return plan.columns;"),
+                swap("return plan.leakCount;", "return plan.crackCount;"),
                 swap("return plan.faceCount;", "return plan.leakCount;"), swap("return reader.count;", "return 0;"),
-                swap("return now.days;", "return now.looks;"), swap("return now.filled;", "return Integer.bitCount(now.filled);"),
+                swap("return now.days;", "return now.looks;"),
+                swap("return now.filled;", "return Integer.bitCount(now.filled);"),
                 swap("return now.brushes;", "return now.looks;"), swap("return book.count;", "return past.count;"),
-                swap("case 20: return past.count;", "case 20: return book.count;"), swap("return now.wind;", "return plan.wind;"));
+                swap("case 20: return past.count;", "case 20: return book.count;"),
+                swap("return now.wind;", "return plan.wind;"));
         edge("OUTSIDE.", "-1 and 21, far ones", c -> {
             DampLikeness d = made("w2 2;");
             c.dueEach("no such thing", OUTSIDE, d.told(-1), d.told(21), d.told(LEAST), d.told(MOST), noWall().told(21));
@@ -264,7 +302,8 @@ final class WallPromiseEdges extends Edges {
             c.due("15 then", d.told(20), 15);
             d.keep(0);
             c.due("none behind keep()", d.told(20), 0);
-        }, Break.in("void push(", "Math.min(MOST_UNDONE, count + 1)", "count + 1"), Break.in("int keep(", "past.clear();", ""));
+        }, Break.in("void push(", "Math.min(MOST_UNDONE, count + 1)", "count + 1"),
+                Break.in("int keep(", "past.clear();", ""));
     }
 
     private static Break swap(String from, String to) {
@@ -307,7 +346,8 @@ final class WallPromiseEdges extends Edges {
         }, Break.in("boolean hasLeak(", "l < leakCount", "l <= leakCount"), Break.in("boolean hasLeak(", "l >= 0 &&", ""),
                 Break.in("boolean hasLeak(", "l < leakCount", "l < MOST_LEAKS"));
         under("Promise 8: crack");
-        edge("what = 0 A, 1 B, 2 1 it is filled, 0 not.", "the first and the sixth CRACK, filled and open; A may be the greater", c -> {
+        edge("what = 0 A, 1 B, 2 1 it is filled, 0 not.",
+                "the first and the sixth CRACK, filled and open; A may be the greater", c -> {
             DampLikeness d = made("w3 3;c1 0;c1 2;c3 4;c4 5;c6 7;c7 8;");
             d.fill(5, true);
             c.due("crack(0, 0)", d.crack(0, 0), 1);
@@ -316,21 +356,26 @@ final class WallPromiseEdges extends Edges {
             c.due("crack(5, 0)", d.crack(5, 0), 7);
             c.due("crack(5, 1)", d.crack(5, 1), 8);
             c.due("crack(5, 2)", d.crack(5, 2), 1);
-        }, Break.in("int crack(", "case 0: return pick(plan.crackA, c);", "case 0: return Math.min(pick(plan.crackA, c), pick(plan.crackB, c));"),
-                Break.in("int crack(", "now.isFilled(c) ? 1 : 0", "now.filled != 0 ? 1 : 0"), Break.of("MOST_CRACKS = 6", "MOST_CRACKS = 5"));
+        }, Break.in("int crack(", "case 0: return pick(plan.crackA, c);",
+                "case 0: return Math.min(pick(plan.crackA, c), pick(plan.crackB, c));"),
+                Break.in("int crack(", "now.isFilled(c) ? 1 : 0", "now.filled != 0 ? 1 : 0"),
+                Break.of("MOST_CRACKS = 6", "MOST_CRACKS = 5"));
         edge("UNKNOWN, OUTSIDE.", "UNKNOWN: one less, one more; no CRACK; no WALL; ahead of OUTSIDE", c -> {
             DampLikeness d = made("w2 2;c0 1;");
-            c.dueEach("one CRACK", UNKNOWN, d.crack(-1, 0), d.crack(1, 0), d.crack(LEAST, 0), d.crack(MOST, 0), d.crack(1, 3));
+            c.dueEach("one CRACK", UNKNOWN, d.crack(-1, 0), d.crack(1, 0), d.crack(LEAST, 0), d.crack(MOST, 0),
+                    d.crack(1, 3));
             c.due("no CRACK", made("w2 2;").crack(0, 0), UNKNOWN);
             c.due("no WALL", noWall().crack(0, 3), UNKNOWN);
-        }, Break.in("boolean hasCrack(", "c < crackCount", "c <= crackCount"), Break.in("boolean hasCrack(", "c >= 0 &&", ""));
+        }, Break.in("boolean hasCrack(", "c < crackCount", "c <= crackCount"),
+                Break.in("boolean hasCrack(", "c >= 0 &&", ""));
         edge("OUTSIDE.", "what: -1 and 3, far ones", c -> {
             DampLikeness d = made("w2 2;c0 1;");
             c.dueEach("what", OUTSIDE, d.crack(0, -1), d.crack(0, 3), d.crack(0, LEAST), d.crack(0, MOST));
         }, Break.in("int crack(", "default: return OUTSIDE;", "case 3: return 0; default: return OUTSIDE;"),
                 Break.in("int crack(", "default: return OUTSIDE;", "case -1: return NONE; default: return OUTSIDE;"));
         under("Promise 9: likeness");
-        edge("what = 0 its CELLS (a SET), 1 LIKE now, 2 FEWEST BRUSHES.", "the first and the fifth; no CELL, all of 25", c -> {
+        edge("what = 0 its CELLS (a SET), 1 LIKE now, 2 FEWEST BRUSHES.",
+                "the first and the fifth; no CELL, all of 25", c -> {
             DampLikeness d = made("w5 5;l24;f0,0,0,0,0;f0,0,0,0,1;f0,0,0,0,1;f0,0,0,0,1;f31,31,31,31,31;");
             d.day(1, 9);
             c.due("likeness(0, 0)", d.likeness(0, 0), 0);
@@ -340,11 +385,13 @@ final class WallPromiseEdges extends Edges {
             c.due("likeness(4, 1)", d.likeness(4, 1), 1);
             c.due("likeness(4, 2)", d.likeness(4, 2), 0);
         }, Break.in("int likeness(", "case 0: return face;", "case 0: return Integer.bitCount(face);"),
-                Break.in("int likeness(", "case 1: return Marks.like(plan, now.marks(), face);", "case 1: return Integer.bitCount(now.marks() & face);"),
+                Break.in("int likeness(", "case 1: return Marks.like(plan, now.marks(), face);",
+                        "case 1: return Integer.bitCount(now.marks() & face);"),
                 Break.of("MOST_FACES = 5", "MOST_FACES = 4"));
         edge("UNKNOWN, OUTSIDE.", "UNKNOWN: one less, one more; no LIKENESS; no WALL; ahead of OUTSIDE", c -> {
             DampLikeness d = made("w2 2;f0,0;");
-            c.dueEach("one", UNKNOWN, d.likeness(-1, 0), d.likeness(1, 0), d.likeness(LEAST, 0), d.likeness(MOST, 0), d.likeness(1, 3));
+            c.dueEach("one", UNKNOWN, d.likeness(-1, 0), d.likeness(1, 0), d.likeness(LEAST, 0), d.likeness(MOST, 0),
+                    d.likeness(1, 3));
             c.due("none", made("w2 2;").likeness(0, 0), UNKNOWN);
             c.due("no WALL", noWall().likeness(0, 3), UNKNOWN);
         }, Break.in("boolean hasFace(", "f < faceCount", "f <= faceCount"), Break.in("boolean hasFace(", "f >= 0 &&", ""));
