@@ -56,21 +56,24 @@ public final class BreaksTest {
     }
 
     private static Map<String, byte[]> compiled(String source) {
-        StringWriter said = new StringWriter();
-        Memory memory = new Memory(COMPILER.getStandardFileManager(null, null, null));
         JavaFileObject file = new SimpleJavaFileObject(URI.create("string:///DampLikeness.java"), JavaFileObject.Kind.SOURCE) {
             @Override
             public CharSequence getCharContent(boolean ignored) {
                 return source;
             }
         };
+        StringWriter said = new StringWriter();
         List<String> options = List.of("--release", "17", "-proc:none");
-        if (!COMPILER.getTask(said, memory, null, options, null, List.of(file)).call()) {
-            throw new IllegalStateException("does not compile: " + said);
+        try (Memory memory = new Memory(COMPILER.getStandardFileManager(null, null, null))) {
+            if (!COMPILER.getTask(said, memory, null, options, null, List.of(file)).call()) {
+                throw new IllegalStateException("does not compile: " + said);
+            }
+            Map<String, byte[]> classes = new HashMap<>();
+            memory.made.forEach((name, bytes) -> classes.put(name, bytes.toByteArray()));
+            return classes;
+        } catch (IOException unclosed) {
+            throw new IllegalStateException(unclosed);
         }
-        Map<String, byte[]> classes = new HashMap<>();
-        memory.made.forEach((name, bytes) -> classes.put(name, bytes.toByteArray()));
-        return classes;
     }
 
     /** Takes what javac makes, so that no file is written. */
